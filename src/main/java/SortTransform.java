@@ -342,7 +342,7 @@ public final class SortTransform {
         int alike = 0;
         for (int i = 0; i < from.size; i++) {
             int b = from.at(i);
-            alike = alike > 0 && b == from.at(i - 1) ? alike + 1 : 1;
+            alike = b == from.at(i - 1) ? alike + 1 : 1;
             to.add(b);
             if (alike == RUN) {
                 int more = countMore(from, i + 1, b);
@@ -373,10 +373,11 @@ public final class SortTransform {
                 return false;
             }
             to.addMany(many, isCount ? from.at(i - 1) : b);
+            // A count is no byte of a run: from 0 on, even a byte that is like it is the first of its own.
             if (isCount) {
                 alike = 0;
             } else {
-                alike = alike > 0 && b == from.at(i - 1) ? alike + 1 : 1;
+                alike = b == from.at(i - 1) ? alike + 1 : 1;
             }
         }
         return true;
@@ -400,7 +401,7 @@ public final class SortTransform {
         }
 
         int at(int i) {
-            return has(i) ? bytes[i] : NONE;
+            return i >= 0 && i < size ? bytes[i] : NONE;
         }
 
         void add(int b) {
@@ -455,7 +456,7 @@ public final class SortTransform {
         // While the turns are put in order, this holds their new ranks.
         private final int[] places = new int[MOST_ROW];
         private final int[] ranks = new int[MOST_ROW];
-        private final int[] shifted = new int[MOST_ROW];
+        private final int[] line = new int[MOST_ROW];
         private final int[] offsets = new int[MOST_ROW + 1];
         private int size;
         private int rankCount;
@@ -475,12 +476,14 @@ public final class SortTransform {
                 ranks[p] = row.at(p);
             }
             rankCount = BYTES;
-            sortFromLeft();
+            lineUp();
+            sortByRank();
             numberRanks(0);
             doublings = 0;
             for (int length = 1; length < size && rankCount < size; length *= 2) {
                 int before = rankCount;
-                sortFromShifted(length);
+                shift(length);
+                sortByRank();
                 numberRanks(length);
                 // What one doubling does not tell apart, no later one does.
                 if (rankCount == before) {
@@ -489,28 +492,29 @@ public final class SortTransform {
                 doublings++;
             }
             // Like turns have one rank, and come by their numbers only if sorted once more from the left.
-            sortFromLeft();
+            lineUp();
+            sortByRank();
             notePlaces(row);
         }
 
-        private void sortFromLeft() {
+        private void lineUp() {
             for (int p = 0; p < size; p++) {
-                shifted[p] = p;
+                line[p] = p;
             }
-            sortShiftedByRank();
         }
 
         /** What is in order by its bytes from 'length' on needs only a steady sort by the ranks before these. */
-        private void sortFromShifted(int length) {
+        private void shift(int length) {
             for (int k = 0; k < size; k++) {
-                int turn = order[k] - length;
-                shifted[k] = turn < 0 ? turn + size : turn;
+                line[k] = around(order[k] - length);
             }
-            sortShiftedByRank();
         }
 
-        private void sortShiftedByRank() {
-            Arrays.fill(offsets, 0, rankCount + 1, 0);
+        /** Puts the turns of the line in order by their ranks, like ones as they stand in the line. */
+        private void sortByRank() {
+            for (int rank = 0; rank <= rankCount; rank++) {
+                offsets[rank] = 0;
+            }
             for (int k = 0; k < size; k++) {
                 offsets[ranks[k] + 1]++;
             }
@@ -518,29 +522,35 @@ public final class SortTransform {
                 offsets[rank + 1] += offsets[rank];
             }
             for (int k = 0; k < size; k++) {
-                int rank = ranks[shifted[k]];
-                order[offsets[rank]] = shifted[k];
+                int rank = ranks[line[k]];
+                order[offsets[rank]] = line[k];
                 offsets[rank]++;
             }
         }
 
+        /** Gives new ranks by the ranks of two places: a turn's own, and 'length' behind it. */
         private void numberRanks(int length) {
-            int rank = 0;
+            int rank = -1;
+            int before = -1;
+            int behindBefore = -1;
             for (int k = 0; k < size; k++) {
-                if (k > 0 && differ(order[k - 1], order[k], length)) {
+                int turn = order[k];
+                int behind = ranks[around(turn + length)];
+                if (ranks[turn] != before || behind != behindBefore) {
                     rank++;
                 }
-                places[order[k]] = rank;
+                before = ranks[turn];
+                behindBefore = behind;
+                places[turn] = rank;
             }
             System.arraycopy(places, 0, ranks, 0, size);
             rankCount = rank + 1;
         }
 
-        private boolean differ(int one, int other, int length) {
-            return ranks[one] != ranks[other] || ranks[around(one + length)] != ranks[around(other + length)];
-        }
-
         private int around(int place) {
+            if (place < 0) {
+                return place + size;
+            }
             return place < size ? place : place - size;
         }
 
@@ -926,8 +936,6 @@ public final class SortTransform {
             if (packed.size > 0) {
                 bench.symbols.makeFrom(bench.turns.lasts);
                 bench.codes.makeFrom(bench.symbols);
-                // The numbers have brought the list out of order: here it is needed rising again.
-                bench.symbols.list.listBytes(packed);
                 putList(bench.symbols.list);
                 putLengths(bench.codes);
                 putCodes(bench.symbols, bench.codes);
@@ -1016,7 +1024,12 @@ public final class SortTransform {
             fault = 0;
             faultPlace = NONE;
             last.shorten(0);
-            return readHead() && (count == 0 || readBody(bench)) && isGivenBack(bench) && isAtEnd();
+            FrontList list = bench.symbols.list;
+            Codes codes = bench.codes;
+            return readHead()
+                    && (count == 0 || readList(list) && readLengths(codes, list.size + 2) && readSymbols(codes, list))
+                    && isGivenBack(bench)
+                    && isAtEnd();
         }
 
         private boolean fails(int number, int place) {
@@ -1072,11 +1085,6 @@ public final class SortTransform {
             }
             check = next(32);
             return true;
-        }
-
-        private boolean readBody(Bench bench) {
-            FrontList list = bench.symbols.list;
-            return readList(list) && readLengths(bench.codes, list.size + 2) && readSymbols(bench.codes, list);
         }
 
         private boolean readList(FrontList list) {

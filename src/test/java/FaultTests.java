@@ -113,6 +113,11 @@ public final class FaultTests {
             most.addAll(many(4, i));
         }
         reads("good 750", PlainModel.streamBits(most), most);
+        List<Integer> countLike = join(many(9, 9), many(3, 5));
+        reads("bytes like the count ahead of them", PlainModel.streamBits(countLike), countLike);
+        List<Integer> nextLike = join(many(9, 9), many(8, 5));
+        reads("a run like the count ahead of it", PlainModel.streamBits(nextLike), nextLike);
+        twelveBits();
         // A list with a byte that is not used, lengths on a longer way, and lengths by no weights: no FAULT tells of these.
         int check = PlainModel.checkOf(row("a"));
         String unused = PlainModel.headBits(1, 0, check) + list('a', 'b') + bits(2, 4) + "0" + "0" + "0" + "0" + "00" + "11";
@@ -122,6 +127,17 @@ public final class FaultTests {
         String twelve = PlainModel.headBits(1, 0, check) + list('a') + bits(12, 4) + "11".repeat(11) + "0"
                 + "10".repeat(11) + "11".repeat(10) + "0" + "0" + "0" + "11";
         reads("12 on the way", twelve, row("a"));
+    }
+
+    /** Codes of all lengths to 12: 0, 10, 110 .. and the last two of 12 bits, one of which is SYMBOL 0's or the END's. */
+    private void twelveBits() {
+        int check = PlainModel.checkOf(row("a"));
+        String ahead = PlainModel.headBits(1, 0, check) + list('a', 'b', 'c', 'd', 'e', 'f', 'g', 'h', 'i', 'j', 'k');
+        String rising = ahead + bits(1, 4) + "0" + "100".repeat(11) + "0";
+        reads("lengths 1 to 12 and 12", rising + "0" + "1".repeat(12), row("a"));
+        meets("lengths 1 to 12", ahead + bits(1, 4) + "0" + "100".repeat(11) + "110", 7, 14);
+        String falling = ahead + bits(12, 4) + "0" + "0" + "110".repeat(11);
+        reads("lengths 12 and 12 to 1", falling + "1".repeat(11) + "0" + "0", row("a"));
     }
 
     private void tapeEnds() {
@@ -173,6 +189,7 @@ public final class FaultTests {
         // Symbol 0 takes 4 + 2 + 2 + 1 bits, so that symbol 1 begins in the next byte, and goes on in the one behind it.
         meets("symbol 1 in the next byte", ahead + bits(1, 4) + "1011" + "0" + "1011101110" + "1111" + "0", 6, 15);
         meets("symbol 1 in the next byte, above", ahead + bits(12, 4) + "1110" + "0" + "1110111011101010", 6, 15);
+        meets("wrong just where the tape ends", ahead + bits(1, 4) + "0" + "0" + "11", 6, 14);
         meets("symbol 2 in a byte of its own", ahead + bits(2, 4) + "0" + "1011" + "10110" + "1111", 6, 15);
     }
 
