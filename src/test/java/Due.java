@@ -18,6 +18,14 @@ final class Due {
         is(what, holds ? 1 : 0, 1);
     }
 
+    int asked() {
+        return asked;
+    }
+
+    int wrong() {
+        return wrong;
+    }
+
     /** Ends the test: exit code 1 if one answer was wrong, or if none was asked for. */
     void end(String name) {
         System.out.println(name + ": " + asked + " answers, " + wrong + " not as due");
