@@ -147,6 +147,20 @@ final class BlockEdges extends Edges {
         is("feed(1, 0) behind 600", filled(ROOM, 1).feed(1, 0), BAD);
     }
 
+    /** "come behind THE BLOCK": what is told of an empty one, and of one, is another thing behind one byte more. */
+    void p02BlockIsAnotherThen() {
+        SortTransform x = empty();
+        for (int n = 1; n <= 3; n++) {
+            x.pack();
+            x.order(0);
+            x.symbol(0);
+            x.feed('a', 1);
+            is("pack() of " + n, x.pack(), n);
+            is("order(" + (n - 1) + ") of " + n, x.order(n - 1), n - 1);
+            is("symbol(0) of " + n, x.symbol(0), n == 2 ? 1 : 0);
+        }
+    }
+
     // ---- 3: "n bytes b (0 .. 255), 1 to 600, come behind it: how many it has. BAD; FULL."
 
     /** "1 to 600": one is the least. */
@@ -221,6 +235,20 @@ final class BlockEdges extends Edges {
         is("fill(1, 256) behind 600", filled(ROOM, 1).fill(1, 256), BAD);
         is("fill(601, 1) behind 600", filled(ROOM, 1).fill(601, 1), BAD);
         is("fill(0, 1) behind 600", filled(ROOM, 1).fill(0, 1), BAD);
+    }
+
+    /** "come behind it": what is told of an empty one, and of one, is another thing behind one byte more. */
+    void p03BlockIsAnotherThen() {
+        SortTransform x = empty();
+        for (int n = 1; n <= 3; n++) {
+            x.pack();
+            x.order(0);
+            x.symbol(0);
+            x.fill(1, 'a');
+            is("pack() of " + n, x.pack(), n);
+            is("order(" + (n - 1) + ") of " + n, x.order(n - 1), n - 1);
+            is("symbol(0) of " + n, x.symbol(0), n == 2 ? 1 : 0);
+        }
     }
 
     // ---- 4: "THE BLOCK is empty: how many it had."

@@ -159,6 +159,19 @@ final class ReadingEdges extends Edges {
         is("pack()", x.pack(), 6);
     }
 
+    /** One object reads again and again: longer ones, shorter ones, none, and behind a FAULT. */
+    void p25AgainAndAgain() {
+        SortTransform x = empty();
+        for (String text : new String[] {"banana", "a", "mississippi", "", "aaaaaaaab", "ab"}) {
+            putOnTape(x, PlainModel.streamBits(row(text)));
+            is(text + ": read()", x.read(), text.length());
+            blockIs(text, x, text);
+            putOnTape(x, head(2, 0) + LIST_AB + LENGTHS_AB + SECOND + SECOND + END);
+            is(text + ": read() of another CHECK", x.read(), -21);
+            blockIs(text + " behind a FAULT", x, text);
+        }
+    }
+
     /** OUT stays, behind a good reading and behind a FAULT. */
     void p25OutStays() {
         SortTransform x = empty();
@@ -568,6 +581,27 @@ final class ReadingEdges extends Edges {
     void p25Fault12FillingAheadOfMore() {
         String good = head(1, 0, PlainModel.checkOf(row("a"))) + LIST_A + LENGTHS_A + "10" + "0";
         meets("both", good + "0001" + bits(0, 8), 12, 15);
+    }
+
+    /** From none to seven bits that fill: a 1 in the last of them, and a byte more behind them. */
+    void p25Fault12AnyFilling() {
+        boolean[] met = new boolean[8];
+        for (String text : new String[] {"a", "b", "aa", "ab", "aab", "abc", "aaab", "aabb", "aabc", "abcd", "ababa",
+            "aaaa", "abcbac", "abcde", "aabbcc", "mississippi", "banana"}) {
+            String bits = PlainModel.streamBits(row(text));
+            int filling = (8 - bits.length() % 8) % 8;
+            met[filling] = true;
+            int size = (bits.length() + filling) / 8;
+            reads(text, bits, row(text));
+            meets(text + " and a byte 0", bits + "0".repeat(filling + 8), 12, size);
+            if (filling > 0) {
+                meets(text + " and a last bit", bits + "0".repeat(filling - 1) + "1", 12, size - 1);
+                meets(text + " and a first bit", bits + "1" + "0".repeat(filling - 1), 12, size - 1);
+            }
+        }
+        for (int filling = 0; filling < 8; filling++) {
+            is("some end with " + filling + " bits that fill", met[filling] ? 1 : 0, 1);
+        }
     }
 
     /** Nothing to fill: the next byte is the first that is too much. */

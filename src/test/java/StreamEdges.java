@@ -120,6 +120,27 @@ final class StreamEdges extends Edges {
                 + "0011" + "0" + "0" + "11110" + "100" + "0" + "0" + "10" + "000000");
     }
 
+    /** "4 bits the LENGTH of SYMBOL 0": where SYMBOL 1 has another one. */
+    void p19LengthOfSymbolNought() {
+        // LAST is aaa: digits 1 and 1, END; weights 2, 1, 1: LENGTHS 1, 2, 2, CODES 0, 10, 11.
+        outIs("aaa", of("aaa"), head(3, 0, PlainModel.checkOf(List.of(97, 97, 97))) + "0000001000000000"
+                + "0100000000000000" + "0001" + "0" + "100" + "0" + "0" + "0" + "11" + "000");
+    }
+
+    /** "0s fill the last byte": from none to seven of them. */
+    void p19AnyFilling() {
+        boolean[] met = new boolean[8];
+        for (String text : new String[] {"a", "b", "aa", "ab", "aab", "abc", "aaab", "aabb", "aabc", "abcd", "ababa",
+            "aaaa", "abcbac", "abcde", "aabbcc", "mississippi", "banana"}) {
+            String bits = PlainModel.streamBits(text.chars().boxed().toList());
+            met[(8 - bits.length() % 8) % 8] = true;
+            outIs(text, of(text), bits);
+        }
+        for (int filling = 0; filling < 8; filling++) {
+            is("some end with " + filling + " bits that fill", met[filling] ? 1 : 0, 1);
+        }
+    }
+
     /** A row of some 400 bytes with eleven kinds, by the model. */
     void p19LongLengths() {
         SortTransform x = SymbolEdges.risingBlock();

@@ -169,6 +169,21 @@ final class SymbolEdges extends Edges {
         codesAre("banana", of("banana"), 4, 5, 0, 6, 7);
     }
 
+    /** LENGTHS are of THE BLOCK as it is: many SYMBOLS, few, and many again on one object. */
+    void p17OfAnotherBlock() {
+        SortTransform x = of("a");
+        lengthsAre("a", x, 2, 2, 1);
+        feed(x, "ba");
+        lengthsAre("aba", x, 3, 3, 1, 2);
+        x.clear();
+        feed(x, "banana");
+        lengthsAre("banana", x, 3, 3, 1, 3, 3);
+        x.clear();
+        lengthsAre("no bytes", x, 1, 1);
+        x.fill(3, 'a');
+        lengthsAre("aaa", x, 1, 2, 2);
+    }
+
     /** THE LIST with all 256 bytes has 258 SYMBOLS. */
     void p17AllBytes() {
         SortTransform x = allBytesFalling();

@@ -215,6 +215,20 @@ final class TurnEdges extends Edges {
         is("rounds() of 599 a and a b: 1024 of 600", manyAndOne(599, 'a', 'b').rounds(), 10);
     }
 
+    /** ROUNDS are of THE BLOCK as it is: fewer again, and none, on one object. */
+    void p11FewerAgain() {
+        SortTransform x = of("aaaab");
+        is("rounds() of aaaab", x.rounds(), 2);
+        x.clear();
+        feed(x, "aab");
+        is("rounds() of aab", x.rounds(), 1);
+        feed(x, "aab");
+        is("rounds() of aabaab", x.rounds(), 1);
+        x.clear();
+        feed(x, "ab");
+        is("rounds() of ab", x.rounds(), 0);
+    }
+
     // ---- 12: "The START of part i of m (1 .. 64); NONE of no bytes. BAD."
 
     /** "m (1 .. 64)": one part begins at place 0, where the ORIGIN is. */
@@ -457,6 +471,18 @@ final class TurnEdges extends Edges {
         is("check() of banana", x.check(), -273224703);
     }
 
+    /** Back again and again on one object: each time from what THE BLOCK has become. */
+    void p14AgainAndAgain() {
+        SortTransform x = of("nnbaaa");
+        is("back(3)", x.back(3), 1);
+        is("back(3) again", x.back(3), 0);
+        blockIs("back(3) again", x, "baabaa");
+        x.clear();
+        feed(x, "bbaa");
+        is("back(0)", x.back(0), 1);
+        blockIs("back(0)", x, "abab");
+    }
+
     // ---- 15: "How many steps of NEXT lead from a place to itself again, THE BLOCK being LAST. BAD."
 
     /** "BAD": no such place. */
@@ -484,6 +510,17 @@ final class TurnEdges extends Edges {
         is("ring(0) of nnbaaa", of("nnbaaa").ring(0), 6);
         is("ring(0) of a b and 599 a", oneAndMany('b', 599, 'a').ring(0), ROOM);
         is("ring(599) of a b and 599 a", oneAndMany('b', 599, 'a').ring(599), ROOM);
+    }
+
+    /** "THE BLOCK being LAST": it is asked of one block, and then of another on the same object. */
+    void p15OfAnotherBlock() {
+        SortTransform x = of("banana");
+        is("ring(0) of banana", x.ring(0), 3);
+        x.clear();
+        feed(x, "aba");
+        is("ring(0) of aba", x.ring(0), 1);
+        is("ring(1) of aba", x.ring(1), 2);
+        is("ring(3) of aba", x.ring(3), BAD);
     }
 
     /** THE BLOCK stays, with the order of its turns. */
