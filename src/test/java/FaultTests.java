@@ -4,7 +4,7 @@ import java.util.List;
 import java.util.Set;
 import java.util.TreeSet;
 
-/** Tapes that are built bit by bit, each with the FAULT that its reading meets first and with its place. */
+/** Promises 25 and 26: tapes built bit by bit, each with the FAULT that its reading meets first and with its place. */
 public final class FaultTests {
     private static final int NONE = -2;
     private final Due due = new Due();

@@ -5,8 +5,9 @@ import java.util.ArrayList;
 import java.util.List;
 
 /**
- * LENGTHS above 12 need weights that rise like 1, 1, 1, 2, 3, 5 .. to a sum of 610, which no block as it stands
- * reaches (601 symbols), so that this test looks at the class's own Codes from inside.
+ * Promises 17 and 19: LENGTHS above 12 need weights that rise like 1, 1, 1, 2, 3, 5 .. to a sum of 610, which no block
+ * as it stands reaches (601 symbols), and of PACKED hardly one (StreamEdges has one), so that this test looks at the
+ * class's own Codes from inside.
  */
 public final class LongCodesTests {
     private static final int MOST_SYMBOLS = 901;

@@ -63,10 +63,12 @@ final class ReadingEdges extends Edges {
         putOnTape(x, bits);
         is(what + ": read()", x.read(), row.size());
         is(what + ": faultAt()", x.faultAt(), NONE);
-        for (int i = 0; i < row.size(); i++) {
+        // Of a long row THE CHECK tells for the rest, so that no object is asked more than 512 times.
+        for (int i = 0; i < row.size() && i < 100; i++) {
             is(what + ": octet(" + i + ")", x.octet(i), row.get(i));
         }
         is(what + ": octet behind it", x.octet(row.size()), NONE);
+        is(what + ": check()", x.check(), PlainModel.checkOf(row));
         is(what + ": cut(0)", x.cut(0), 0);
     }
 
@@ -332,8 +334,8 @@ final class ReadingEdges extends Edges {
     void p25Fault06LeastAndMostLength() {
         int check = PlainModel.checkOf(row("a"));
         reads("1, 2, 2", head(1, 0, check) + LIST_A + "0001" + "0" + "100" + "0" + "0" + "11", row("a"));
-        reads("12 on the way to 1, 2, 2", head(1, 0, check) + LIST_A + "1100" + "11".repeat(11) + "0" + "100" + "0" + "0" + "11",
-                row("a"));
+        reads("12 on the way to 1, 2, 2", head(1, 0, check) + LIST_A + "1100" + "11".repeat(11) + "0" + "100" + "0"
+                + "0" + "11", row("a"));
         reads("1 and 12 on the way to 2, 2, 1", head(1, 0, check) + LIST_A + "0010" + "11" + "10".repeat(11)
                 + "11".repeat(10) + "0" + "0" + "110" + "10" + "0", row("a"));
     }
@@ -350,7 +352,8 @@ final class ReadingEdges extends Edges {
     /** "also on the way": below 1 and above 12, though it would come back. */
     void p25Fault06OnTheWay() {
         meets("2, 1, 0 and back", head(1, 0) + LIST_A + "0010" + "1111" + "1010" + "0" + "0" + "110" + "10" + "0", 6, 14);
-        meets("12, 13 and back", head(1, 0) + LIST_A + "1100" + "10" + "11".repeat(11) + "0" + "0" + "110" + "10" + "0", 6, 14);
+        meets("12, 13 and back", head(1, 0) + LIST_A + "1100" + "10" + "11".repeat(11) + "0" + "0" + "110" + "10" + "0",
+                6, 14);
     }
 
     /** "at its first bit": where the bits of that SYMBOL's LENGTH begin, not where they go wrong. */
@@ -413,7 +416,8 @@ final class ReadingEdges extends Edges {
 
     /** "more than n bytes": by a number; just n are good. */
     void p25Fault08Number() {
-        reads("ab of 2", head(2, 0, PlainModel.checkOf(row("ab"))) + LIST_AB + LENGTHS_AB + SECOND + SECOND + END, row("ab"));
+        reads("ab of 2", head(2, 0, PlainModel.checkOf(row("ab"))) + LIST_AB + LENGTHS_AB + SECOND + SECOND + END,
+                row("ab"));
         meets("a third of 2", head(2, 0) + LIST_AB + LENGTHS_AB + SECOND + SECOND + SECOND + END, 8, 15);
         meets("a fifth of 4", head(4, 0) + LIST_AB + LENGTHS_AB + SECOND.repeat(5) + END, 8, 16);
     }
@@ -449,11 +453,13 @@ final class ReadingEdges extends Edges {
 
     /** "at its first bit": of a CODE that goes on in the next byte. */
     void p25Fault08AtItsFirstBit() {
-        // LENGTHS 1, 2, 3, 3: SYMBOL 0 is 0, 1 is 10, 2 is 110, the END is 111; the CODES begin at bit 6 of byte 15.
-        String lengths = "0001" + "0" + "100" + "100" + "0" + "10";
-        meets("the END in bytes 15 and 16", head(9, 0) + LIST_AB + "0001" + "0" + "100" + "100" + "0"
-                + "0" + "0" + "111", 8, 15);
-        is("the bits ahead of it are in byte 15", (112 + lengths.length()) / 8, 15);
+        // LENGTHS 1, 2, 3, 3: SYMBOL 0 is 0, 1 is 10, 2 is 110, the END is 111; they end four bits into byte 15.
+        String ahead = LIST_AB + "0001" + "0" + "100" + "100" + "0";
+        is("the bits ahead of the CODES", 80 + ahead.length(), 8 * 15 + 4);
+        meets("the END in bytes 15 and 16", head(9, 0) + ahead + "0" + "10" + "111", 8, 15);
+        meets("the END from byte 16 on", head(20, 0) + ahead + "0" + "0" + "0" + "0" + "111", 8, 16);
+        meets("a number in bytes 15 and 16", head(3, 0) + ahead + "0" + "0" + "110", 8, 15);
+        meets("a digit in bytes 15 and 16", head(10, 0) + ahead + "0" + "0" + "0" + "10", 8, 15);
     }
 
     /** "the first that is met": ahead of the tape's end, and ahead of 9, 10, 11, 12. */

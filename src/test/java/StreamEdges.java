@@ -2,6 +2,15 @@ import java.util.List;
 
 /** Edges of OUT and of THE TAPE, up to its reading: promises 19 to 24. */
 final class StreamEdges extends Edges {
+    // A block of bytes 1 (a) to 11 (k) that was searched for: LAST of its PACKED has weights by which LENGTHS pass 12.
+    private static final String FAR_WEIGHTS = "bhaaaaadcccaegeffffjjaeabebdbbddajiifgbbbbbcggbbaebdccccaffaadbcbbbabgeeadc"
+            + "ccccfiiiiagbaabcbgebdcggacaegccbbakeddddaegeeaaeaaeadccakaaeabgdbbgfjggeeee"
+            + "egecbagbaeeagdbakkagaccbccaeeegeeffffeaeecaahhaagdcbbaaaeeeadbbgebaebggggaf"
+            + "gabgcgfaadcbdcgbbcbgegegcccccjhhhhjiiiiaegchaaabdcbdccaiedeabcbbajiiiiafjgg"
+            + "eeacaeeebaabbacaebddbaecbajjjjjcgebebabdbcghhaabcaeadcajaeaaadkkkkkaffffjhh"
+            + "hhkjecafegbchaaahgggeeeaaaaaffffeacahhaaagcgedaiiiieagdbccabbbbbebhaabbbbae"
+            + "fkjacggggeacgbbgedbaccccceeabbcggefaabbgdajggbabbdddajaddddddajaeeeaecahifg"
+            + "bbebebddcgbbgccbgeeeeedcbbaebaeaeeeekaaeegdbaadddcccaeakkkkkaebebgdbagbabgc";
 
     private static String head(int n, int origin, int check) {
         return bits(21332, 16) + bits(n, 16) + bits(origin, 16) + bits(check, 32);
@@ -150,6 +159,33 @@ final class StreamEdges extends Edges {
         }
         List<Integer> row = text.chars().boxed().toList();
         outIs("rising weights", x, PlainModel.streamBits(row));
+    }
+
+    /**
+     * "If one is above 12: each weight w becomes w / 2 + 1": SYMBOLS 0 .. 13 stand 90, 1 (or not), 234, 144, 55, 34, 21,
+     * 3, 1, 13, 5, 2, 8, 1 times, by which some have the LENGTH 13; by the halves none has more than 8.
+     */
+    void p19LengthsAboveTwelve() {
+        StringBuilder text = new StringBuilder();
+        for (char b : FAR_WEIGHTS.toCharArray()) {
+            text.append((char) (b - 'a' + 1));
+        }
+        SortTransform x = of(text.toString());
+        List<Integer> row = text.chars().boxed().toList();
+        List<Integer> symbols = PlainModel.symbolsOf(PlainModel.lastOf(PlainModel.packOf(row)));
+        is("the weights are halved", PlainModel.isHalved(symbols) ? 1 : 0, 1);
+        outIs("far weights", x, PlainModel.streamBits(row));
+        // Bytes 0 .. 11 are in THE LIST, so that the LENGTHS begin at byte 14.
+        String lengths = PlainModel.lengthBits(new int[] {3, 8, 2, 2, 3, 4, 4, 6, 8, 5, 6, 6, 5, 7});
+        List<Integer> bytes = PlainModel.bytesOf(lengths.substring(0, lengths.length() / 8 * 8));
+        is("out(10)", x.out(10), 0x80);
+        is("out(13)", x.out(13), 0xF0);
+        for (int i = 0; i < bytes.size(); i++) {
+            is("LENGTHS: out(" + (14 + i) + ")", x.out(14 + i), bytes.get(i));
+        }
+        x.take();
+        x.clear();
+        is("read()", x.read(), ROOM);
     }
 
     /** THE BLOCK stays, and so do the order of its turns and its SYMBOLS, which are not those of PACKED. */

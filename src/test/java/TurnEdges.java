@@ -383,7 +383,7 @@ final class TurnEdges extends Edges {
         noSteps("no bytes", empty(), "\u0000");
     }
 
-    // ---- 14: "THE BLOCK becomes what it gives BACK .. 1 if it was RIGHT, 0 if not .. BAD: no such place; NONE of no bytes."
+    // ---- 14: "THE BLOCK becomes what it gives BACK .. 1 if RIGHT, 0 if not .. BAD: no such place; NONE of no bytes."
 
     /** "NONE of no bytes." */
     void p14OfNoBytes() {
