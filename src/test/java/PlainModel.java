@@ -97,6 +97,29 @@ final class PlainModel {
         return to;
     }
 
+    /** What a row tells, if each four like bytes have a count behind them; packed as told or not. */
+    static List<Integer> unpackOf(List<Integer> packed) {
+        List<Integer> row = new ArrayList<>();
+        int i = 0;
+        while (i < packed.size()) {
+            int b = packed.get(i);
+            int end = i;
+            while (end < packed.size() && end - i < 4 && packed.get(end) == b) {
+                end++;
+            }
+            int many = end - i;
+            if (many == 4 && end < packed.size()) {
+                many += packed.get(end);
+                end++;
+            }
+            for (int k = 0; k < many; k++) {
+                row.add(b);
+            }
+            i = end;
+        }
+        return row;
+    }
+
     int pack() {
         return packOf(block).size();
     }
@@ -128,7 +151,7 @@ final class PlainModel {
         return last;
     }
 
-    private static int placeOf(List<Integer> row, int p) {
+    static int placeOf(List<Integer> row, int p) {
         int[][] turns = turnsOf(row);
         for (int k = 0; k < turns.length; k++) {
             if (turns[k][row.size()] == p) {
@@ -597,24 +620,7 @@ final class PlainModel {
             if (!isRight(packed, last, origin)) {
                 throw new Fault(9, 4);
             }
-            List<Integer> row = new ArrayList<>();
-            int i = 0;
-            while (i < packed.size()) {
-                int b = packed.get(i);
-                int end = i;
-                while (end < packed.size() && end - i < 4 && packed.get(end) == b) {
-                    end++;
-                }
-                int many = end - i;
-                if (many == 4 && end < packed.size()) {
-                    many += packed.get(end);
-                    end++;
-                }
-                for (int k = 0; k < many; k++) {
-                    row.add(b);
-                }
-                i = end;
-            }
+            List<Integer> row = unpackOf(packed);
             if (row.size() > 600 || !packOf(row).equals(packed)) {
                 throw new Fault(10, 2);
             }
